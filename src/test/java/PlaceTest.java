@@ -8,6 +8,7 @@ public final class PlaceTest {
         between();
         single();
         atTheEdges();
+        ofTwenty();
         Check.end();
     }
 
@@ -54,5 +55,21 @@ public final class PlaceTest {
             Check.due("x at " + t, () -> Made.fraction(log, 0, t, false), Oracle.place(samples, t, 1));
             Check.due("y at " + t, () -> Made.fraction(log, 0, t, true), Oracle.place(samples, t, 2));
         }
+    }
+
+    private static void ofTwenty() {
+        int[][] samples = new int[20][];
+        for (int i = 0; i < 20; i++) {
+            samples[i] = new int[] {3 * i + 1, i % 2, -i * i};
+        }
+        DriftLog log = Made.sealed(0, 0, samples);
+        Check.due("all twenty are kept", () -> log.track(0, 1), 20);
+        for (int t = 1; t <= 58; t++) {
+            int each = t;
+            Check.due("x of twenty at " + t, () -> Made.fraction(log, 0, each, false), Oracle.place(samples, t, 1));
+            Check.due("y of twenty at " + t, () -> Made.fraction(log, 0, each, true), Oracle.place(samples, t, 2));
+        }
+        Check.due("behind twenty", () -> log.place(0, 59, false, false), Check.ARGUMENT);
+        Check.due("before twenty", () -> log.place(0, 0, false, false), Check.ARGUMENT);
     }
 }
