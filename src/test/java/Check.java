@@ -5,6 +5,7 @@ final class Check {
     static final String ARGUMENT = "throws.IllegalArgumentException";
 
     private static int wrong = 0;
+    private static String sentence = "";
 
     private Check() {
     }
@@ -14,23 +15,33 @@ final class Check {
         Object answer();
     }
 
-    interface VoidCall {
-        void run();
+    /** Makes an object, the same each time. */
+    interface Make {
+        DriftLog log();
+    }
+
+    interface Ask {
+        Object of(DriftLog log);
+    }
+
+    /** The sentence of the document that the next answers belong to: it is printed with each that is wrong. */
+    static void sentence(String text) {
+        sentence = "[" + text + "] ";
     }
 
     static void due(String what, Call call, Object want) {
         String got = told(call);
         if (!got.equals(String.valueOf(want))) {
             wrong++;
-            System.out.println(what + " answered " + got + ", due is " + want);
+            System.out.println(sentence + what + " answered " + got + ", due is " + want);
         }
     }
 
-    static void dueNothing(String what, VoidCall call, String want) {
-        due(what, () -> {
-            call.run();
-            return "nothing";
-        }, want);
+    /** What throws or is refused changes nothing: all is as in an equal object that was not asked. */
+    static void refused(String what, Make make, Ask ask, Object want) {
+        DriftLog log = make.log();
+        due(what, () -> ask.of(log), want);
+        due("all that there is after " + what, () -> Made.all(log), Made.all(make.log()));
     }
 
     /** The exception's exact class counts, so that one that the machine throws is never taken for one that is due. */

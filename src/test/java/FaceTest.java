@@ -9,22 +9,25 @@ import java.util.List;
 
 /** The public face is the document's, and nothing else of the class can be seen from outside. */
 public final class FaceTest {
+    private static final String INDEX = " throws IndexOutOfBoundsException";
+    private static final String STATE = INDEX + ",IllegalStateException";
+    private static final String ARGUMENT = STATE + ",IllegalArgumentException";
     private static final String[] FACE = {
-        "int add(int,int,int,int)",
-        "int again(int,int)",
+        "int add(int,int,int,int)" + ARGUMENT,
+        "int again(int,int)" + ARGUMENT,
         "int bytes(int)",
         "boolean cut(int)",
         "boolean drop(int)",
-        "void open(int)",
-        "int pack(int)",
-        "long place(int,int,boolean,boolean)",
+        "void open(int)" + STATE,
+        "int pack(int)" + STATE,
+        "long place(int,int,boolean,boolean)" + ARGUMENT,
         "boolean put(int,long)",
-        "int sample(int,int,int)",
-        "int seal(int,int)",
-        "long span(int,boolean,boolean)",
-        "int spans(int,int,int,int,int)",
+        "int sample(int,int,int)" + INDEX,
+        "int seal(int,int)" + ARGUMENT,
+        "long span(int,boolean,boolean)" + INDEX,
+        "int spans(int,int,int,int,int)" + ARGUMENT,
         "int track(int,int)",
-        "int unpack(int,int)",
+        "int unpack(int,int)" + ARGUMENT,
     };
 
     public static void main(String[] args) {
@@ -33,7 +36,7 @@ public final class FaceTest {
         List<String> due = new ArrayList<>(Arrays.asList(FACE));
         Collections.sort(due);
         Check.due("the methods that can be seen", () -> visibleMethods(), due);
-        Check.due("the fields that can be seen", () -> visibleFields(), List.of("NONE"));
+        Check.due("the fields that can be seen", () -> visibleFields(), List.of("public static final int DriftLog.NONE"));
         Check.due("the constructors", () -> constructors(), List.of("public DriftLog()"));
         Check.due("static fields that are not final", () -> changingStatics(), List.of());
         Check.due("private methods with a public one's name", () -> sharedNames(), List.of());
@@ -44,8 +47,7 @@ public final class FaceTest {
         List<String> seen = new ArrayList<>();
         for (Method m : DriftLog.class.getDeclaredMethods()) {
             if (!Modifier.isPrivate(m.getModifiers())) {
-                String text = m.toString().replace("public ", "").replace("DriftLog.", "");
-                seen.add(text.replaceAll(" throws .*", ""));
+                seen.add(m.toString().replace("public ", "").replace("DriftLog.", "").replace("java.lang.", ""));
             }
         }
         Collections.sort(seen);
@@ -56,7 +58,7 @@ public final class FaceTest {
         List<String> seen = new ArrayList<>();
         for (Field f : DriftLog.class.getDeclaredFields()) {
             if (!Modifier.isPrivate(f.getModifiers())) {
-                seen.add(f.getName());
+                seen.add(f.toString());
             }
         }
         return seen;

@@ -2,6 +2,8 @@
 final class Made {
     static final int LAST_TIME = Integer.MAX_VALUE;
     static final int FAR = 8388608;
+    static final int FRAME_FAR = 16777216;
+    static final int[] NO_TRACKS = {-1, 4, 5, Integer.MIN_VALUE, Integer.MAX_VALUE};
 
     private Made() {
     }
@@ -25,6 +27,38 @@ final class Made {
         }
     }
 
+    /** Track 0 is SEALED, 1 OPEN, 2 FREE, 3 SEALED with the greatest bound; there are bytes and two spans. */
+    static DriftLog mixed() {
+        DriftLog log = sealed(0, 1, new int[][] {{0, 0, 0}, {10, 10, 5}, {20, 10, -5}, {30, 0, 0}});
+        fill(log, 1, new int[][] {{5, 5, 5}, {6, 7, 8}});
+        fill(log, 3, new int[][] {{7, -4, 6}});
+        log.seal(3, 65535);
+        log.pack(3);
+        log.put(2, 0x80FF);
+        log.spans(0, 0, 2, 100, 3);
+        return log;
+    }
+
+    /** Twenty samples of which none can be dropped with e 0. */
+    static int[][] twenty() {
+        int[][] samples = new int[20][];
+        for (int i = 0; i < 20; i++) {
+            samples[i] = new int[] {3 * i + 1, i % 2, -i * i};
+        }
+        return samples;
+    }
+
+    /** So that a call without an answer can be told, too. */
+    static String opened(DriftLog log, int id) {
+        log.open(id);
+        return "nothing";
+    }
+
+    /** State, how many samples and bound. */
+    static String track(DriftLog log, int id) {
+        return log.track(id, 0) + " " + log.track(id, 1) + " " + log.track(id, 2);
+    }
+
     static DriftLog withBytes(int... bytes) {
         DriftLog log = new DriftLog();
         putAll(log, bytes);
@@ -39,7 +73,8 @@ final class Made {
 
     static String samples(DriftLog log, int id) {
         StringBuilder told = new StringBuilder();
-        for (int i = 0; i < log.track(id, 1); i++) {
+        int count = log.track(id, 1);
+        for (int i = 0; i < count; i++) {
             told.append(i == 0 ? "" : " ");
             told.append(log.sample(id, i, 0)).append(',').append(log.sample(id, i, 1)).append(',').append(log.sample(id, i, 2));
         }
@@ -48,7 +83,8 @@ final class Made {
 
     static String bytes(DriftLog log) {
         StringBuilder told = new StringBuilder();
-        for (int k = 0; k < log.bytes(-1); k++) {
+        int count = log.bytes(-1);
+        for (int k = 0; k < count; k++) {
             told.append(k == 0 ? "" : " ").append(log.bytes(k));
         }
         return told.toString();
@@ -68,13 +104,17 @@ final class Made {
         return () -> log.span(i, false, false);
     }
 
-    /** All that can be asked of an object, so that a refused call can be shown to change nothing. */
-    static String all(DriftLog log) {
+    static String tracks(DriftLog log) {
         StringBuilder told = new StringBuilder();
         for (int id = 0; id < 4; id++) {
             told.append(log.track(id, 0)).append(' ').append(log.track(id, 2)).append(": ").append(samples(log, id)).append("; ");
         }
-        return told.append(bytes(log)).append("; ").append(spans(log)).toString();
+        return told.toString();
+    }
+
+    /** All that can be asked of an object, so that a refused call can be shown to change nothing. */
+    static String all(DriftLog log) {
+        return tracks(log) + bytes(log) + "; " + spans(log);
     }
 
     static String fraction(DriftLog log, int id, int t, boolean y) {

@@ -4,9 +4,11 @@ import java.util.Random;
 
 /** Long runs of calls on one object, each answer compared with a plain model of the document. */
 public final class ModelTest {
-    private static final int RUNS = 250;
-    private static final int CALLS = 512;
-    private static final int FRAME_FAR = 16777216;
+    private static final int RUNS = 600;
+    private static final int MOST_CALLS = 512;
+    /** So few that all bytes can be asked for then, too, before the object has had its 512 calls. */
+    private static final int FEWER_CALLS = 200;
+    private static final int FRAME_FAR = Made.FRAME_FAR;
     private static final int[] ODD_INTS = {-1, -2, 0, 1, 19, 20, 21, 300, 65535, 65536, Integer.MIN_VALUE, Integer.MAX_VALUE};
 
     private final Random random;
@@ -16,7 +18,6 @@ public final class ModelTest {
     private final int width;
     private final int timeStep;
     private final int bounds;
-    private String last = "";
 
     private ModelTest(int seed) {
         random = new Random(seed);
@@ -34,11 +35,21 @@ public final class ModelTest {
     }
 
     private void run(int seed) {
-        for (int call = 0; call < CALLS && Check.wrongSoFar() == 0; call++) {
+        int part = seed % 4;
+        int calls = part == 0 ? MOST_CALLS : FEWER_CALLS;
+        for (int call = 0; call < calls && Check.wrongSoFar() == 0; call++) {
             compareOne("run " + seed + ", call " + call + ": ");
-            if (call % 16 == 0) {
-                Check.due("run " + seed + ", all after call " + call + ", " + last, () -> Made.all(log), model.all());
-            }
+        }
+        compareAtTheEnd("run " + seed + ", at the end, ", part);
+    }
+
+    private void compareAtTheEnd(String where, int part) {
+        if (part == 1) {
+            Check.due(where + "tracks", () -> Made.tracks(log), model.tracks());
+        } else if (part == 2) {
+            Check.due(where + "bytes", () -> Made.bytes(log), Oracle.toldBytes(model.allBytes()));
+        } else if (part == 3) {
+            Check.due(where + "spans", () -> Made.spans(log), model.spans);
         }
     }
 
@@ -91,7 +102,6 @@ public final class ModelTest {
     }
 
     private void compare(String what, Check.Call got, Check.Call want) {
-        last = what;
         Check.due(what, got, Check.told(want));
     }
 
@@ -329,7 +339,7 @@ public final class ModelTest {
         int unpack(int id, int e) {
             need(id, 0);
             need(e >= 0 && e <= 65535);
-            int answer = Oracle.read(bytes.stream().mapToInt(Integer::intValue).toArray(), bytes.size());
+            int answer = Oracle.read(allBytes(), bytes.size());
             return answer < 0 ? answer : become(id, e, Oracle.samples(bytes));
         }
 
@@ -350,13 +360,16 @@ public final class ModelTest {
             return all[i].split("\\.\\.")[end ? 1 : 0].split("/")[second ? 1 : 0];
         }
 
-        String all() {
+        int[] allBytes() {
+            return bytes.stream().mapToInt(Integer::intValue).toArray();
+        }
+
+        String tracks() {
             StringBuilder told = new StringBuilder();
             for (int id = 0; id < 4; id++) {
                 told.append(states[id]).append(' ').append(bounds[id]).append(": ").append(Oracle.told(row(id))).append("; ");
             }
-            int[] row = bytes.stream().mapToInt(Integer::intValue).toArray();
-            return told.append(Oracle.toldBytes(row)).append("; ").append(spans).toString();
+            return told.toString();
         }
     }
 }
